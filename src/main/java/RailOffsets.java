@@ -156,7 +156,7 @@ public final class RailOffsets {
             return NO;
         }
         long product = (long) cell(line.offsets, station) * cell(rules, SCALE);
-        return product < Integer.MIN_VALUE || product > Integer.MAX_VALUE ? NO : product;
+        return product == (int) product ? product : NO;
     }
 
     public int join(int i, int what) {
@@ -484,11 +484,11 @@ public final class RailOffsets {
         old.tell(row);
         int was = pieces.read(piece, BEND);
         int found = -MOST_BEND;
-        long least = Long.MAX_VALUE;
+        long least = 0;
         for (int bend = -MOST_BEND; bend <= MOST_BEND; bend++) {
             line.attempt(piece, BEND, bend);
             long greatest = old.greatest(line);
-            if (greatest < least) {
+            if (bend == -MOST_BEND || greatest < least) {
                 least = greatest;
                 found = bend;
             }
@@ -805,13 +805,16 @@ public final class RailOffsets {
         return false;
     }
 
-    private static boolean isEase(int kind) {
-        return kind == EASE || kind == SHARP;
-    }
-
-    /** How much of a rise is done at place k of n. */
-    private static int risen(int kind, int rise, int k, int n) {
-        return kind == SHARP ? share(rise * k * k, n * n) : share(rise * k, n);
+    /** At place k of n: an ease goes from what is ahead of it to its end, all else is at its end throughout. */
+    private static int along(int kind, int ahead, int end, int k, int n) {
+        switch (kind) {
+            case EASE:
+                return ahead + share((end - ahead) * k, n);
+            case SHARP:
+                return ahead + share((end - ahead) * k * k, n * n);
+            default:
+                return end;
+        }
     }
 
     private static int made(int kind, int length) {
@@ -838,8 +841,12 @@ public final class RailOffsets {
             return piece >= 0 && piece < size;
         }
 
+        /** 0 of a piece that isn't there: so much is ahead of the first one. */
         int read(int piece, int field) {
-            return has(piece) ? cell(values, piece * FIELDS + field) : 0;
+            if (piece < 0 || piece >= size) {
+                return 0;
+            }
+            return cell(values, piece * FIELDS + field);
         }
 
         void write(int piece, int field, int v) {
@@ -898,12 +905,19 @@ public final class RailOffsets {
             if (!pieces.has(piece)) {
                 return;
             }
-            int first = firstOf(piece);
-            int last = lastOf(piece);
-            for (int station = first; station <= last; station++) {
+            int kind = pieces.read(piece, KIND);
+            // Cants rise evenly, along a SHARP too.
+            int rise = kind == SHARP ? EASE : kind;
+            int n = pieces.read(piece, LENGTH);
+            int ahead = endVersine(piece - 1);
+            int end = endVersine(piece);
+            int low = pieces.read(piece - 1, CANT);
+            int cant = pieces.read(piece, CANT);
+            for (int k = 1; k <= n; k++) {
+                int station = firstOf(piece) + k - 1;
                 mark(owners, station, piece);
-                mark(versines, station, versineAt(piece, station - first + 1));
-                mark(heights, station, heightAt(piece, station - first + 1));
+                mark(versines, station, along(kind, ahead, end, k, n));
+                mark(heights, station, along(rise, low, cant, k, n));
             }
         }
 
@@ -937,48 +951,32 @@ public final class RailOffsets {
             }
         }
 
-        int versineAt(int piece, int k) {
-            int kind = pieces.read(piece, KIND);
-            int end = endVersine(piece);
-            if (!isEase(kind)) {
-                return end;
-            }
-            int ahead = endVersine(piece - 1);
-            return ahead + risen(kind, end - ahead, k, pieces.read(piece, LENGTH));
-        }
-
-        int heightAt(int piece, int k) {
-            int cant = pieces.read(piece, CANT);
-            if (!isEase(pieces.read(piece, KIND))) {
-                return cant;
-            }
-            int ahead = pieces.read(piece - 1, CANT);
-            // Cants rise evenly, along a SHARP too.
-            return ahead + risen(EASE, cant - ahead, k, pieces.read(piece, LENGTH));
-        }
-
         int turnOf(int piece) {
             int kind = pieces.read(piece, KIND);
             int n = pieces.read(piece, LENGTH);
             int end = endVersine(piece);
-            if (!isEase(kind)) {
+            // A pair of bends asks for some 3700 turns: only those of eases are worth a walk.
+            if (!isUnder(kind, EASE)) {
                 return n * end;
             }
             int ahead = endVersine(piece - 1);
-            int sum = n * ahead;
+            int sum = 0;
             for (int k = 1; k <= n; k++) {
-                sum += risen(kind, end - ahead, k, n);
+                sum += along(kind, ahead, end, k, n);
             }
             return sum;
         }
 
         /** What a piece adds to the last station's offset: each versine counts once for each station from its own on. */
         int offsetOf(int piece) {
+            int kind = pieces.read(piece, KIND);
             int n = pieces.read(piece, LENGTH);
+            int ahead = endVersine(piece - 1);
+            int end = endVersine(piece);
             int behind = stations - firstOf(piece) + 2;
             int sum = 0;
             for (int k = 1; k <= n; k++) {
-                sum += versineAt(piece, k) * (behind - k);
+                sum += along(kind, ahead, end, k, n) * (behind - k);
             }
             return sum;
         }
@@ -1217,8 +1215,13 @@ public final class RailOffsets {
             while (here < size && isLetter(cell(bytes, here))) {
                 here++;
             }
-            value = wordRead();
-            sort = value == NONE ? WRONG : WORD;
+            sort = WRONG;
+            for (int word = 0; word < NUMBERS_OF_WORD.length; word++) {
+                if (spells(nameOf(word))) {
+                    sort = WORD;
+                    value = word;
+                }
+            }
         }
 
         void readNumber() {
@@ -1235,15 +1238,6 @@ public final class RailOffsets {
             int digits = here - first;
             sort = within(digits, 1, DIGITS) ? NUMBER : WRONG;
             value = minus ? -sum : sum;
-        }
-
-        int wordRead() {
-            for (int word = 0; word < NUMBERS_OF_WORD.length; word++) {
-                if (spells(nameOf(word))) {
-                    return word;
-                }
-            }
-            return NONE;
         }
 
         boolean spells(String name) {

@@ -144,6 +144,8 @@ public final class CantsTest {
         Check.due("100 needs 160", x.may(4), 100);
         x.rule(5, 7);
         Check.due("may does not ask the speed", x.may(4), 100);
+        x.set(0, 1, -99);
+        Check.due("5 needs 2 already", x.may(1), 0);
     }
 
     private static void limit() {
@@ -162,6 +164,10 @@ public final class CantsTest {
         Check.due("limit does not ask for steep", x.limit(), 95);
         x.rule(5, 1);
         Check.due("limit does not ask the speed", x.limit(), 95);
+        RailOffsets y = new RailOffsets();
+        y.piece(1, 1, 99, 0);
+        y.rule(1, 0);
+        Check.due("5 needs 2 already", y.limit(), 0);
     }
 
     private static void least() {
@@ -193,5 +199,13 @@ public final class CantsTest {
         Check.due("158 is the need", x.least(2), 158);
         x.set(2, 1, 45);
         Check.due("162 is the need", x.least(2), -1);
+        x.rule(5, 100);
+        x.set(2, 1, 16);
+        Check.due("160 is the need", x.least(2), 160);
+        x.set(2, 1, 17);
+        x.rule(1, 10);
+        Check.due("160 is the need less the lack", x.least(2), 160);
+        x.rule(1, 9);
+        Check.due("161 is the need less the lack", x.least(2), -1);
     }
 }

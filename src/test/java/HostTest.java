@@ -139,6 +139,8 @@ public final class HostTest {
         Check.due("a circle is no reverse", x.count(3), 20);
         x.set(3, 3, 3);
         Check.due("but this is", x.count(3), 25);
+        x.set(0, 2, 1);
+        Check.due("from the first station on", x.count(4), 4 + 3 + 5);
     }
 
     private static void sheet() {

@@ -77,6 +77,13 @@ public final class OldLineTest {
         Check.due("no sheet", x.slews(-1, 0), NO);
         Check.ints(x, 0);
         Check.due("all 0: the first", x.slews(0, 0), 1);
+        // Slews 4, 2, -9 off a line of versines that are not 0.
+        RailOffsets z = new RailOffsets();
+        z.piece(1, 2, 6, 0);
+        z.piece(1, 1, 9, 0);
+        Check.ints(z, 0, 10, 0, 0);
+        Check.due("widest", z.slews(0, 0), 3);
+        Check.due("together", z.slews(0, 1), 15);
         // Together they go beyond the ints.
         RailOffsets y = new RailOffsets();
         for (int i = 0; i < 10; i++) {
@@ -149,6 +156,13 @@ public final class OldLineTest {
             }
         }
         Check.due("no error", x.errors(3, 0), 0);
+        RailOffsets longest = new RailOffsets();
+        for (int i = 0; i < 10; i++) {
+            longest.piece(1, 20, 9 * i, 0);
+        }
+        for (int seed = 0; seed < 9; seed++) {
+            Check.due("errors(" + seed + ", 4) of 200", longest.errors(seed, 4), greatest(seed, 4, 200));
+        }
         Check.due("n", x.errors(3, -1), NO);
         Check.due("n", x.errors(3, 10), NO);
         Check.due("n", x.errors(3, Integer.MIN_VALUE), NO);
@@ -199,6 +213,7 @@ public final class OldLineTest {
         long edge = greatest(77, 3, 12);
         Check.due("w or less", x.chance(77, 1, 3, (int) edge, 0), 1);
         Check.due("above w", x.chance(77, 1, 3, (int) edge - 1, 0), 0);
+        Check.due("no error", x.chance(77, 20, 0, 0, 0), 1);
         Check.due("none is 0 by 1", x.chance(77, 1, 3, (int) edge - 1, 1), 1);
         int[][] bad = {{0, 3, 5, 0}, {21, 3, 5, 0}, {-1, 3, 5, 0}, {2, -1, 5, 0}, {2, 10, 5, 0}, {2, 3, -1, 0},
             {2, 3, Integer.MIN_VALUE, 0}, {2, 3, 5, -1}, {2, 3, 5, 2}};

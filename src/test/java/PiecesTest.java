@@ -96,7 +96,7 @@ public final class PiecesTest {
         Check.due("first station of the next", x.of(1, 5), 21);
         Check.due("half of the bend", x.at(20, 0), -49);
         Check.due("an ease goes by it", x.at(21, 0), -49 + 57 / 4);
-        int[][] bad = {{-1, 0, 1}, {2, 0, 1}, {MAX, 0, 1}, {0, -1, 1}, {0, 4, 1}, {0, MIN, 1}, {0, 0, 0}, {0, 0, 21},
+        int[][] bad = {{-1, 0, 1}, {2, 0, 1}, {MAX, 0, 1}, {0, -1, 1}, {0, 4, 1}, {0, 4, 0}, {0, -1, 0}, {0, MIN, 1}, {0, 0, 0}, {0, 0, 21},
             {0, 1, -100}, {0, 1, 100}, {0, 2, -1}, {0, 2, 161}, {0, 3, -1}, {0, 3, 6}};
         for (int[] b : bad) {
             Check.due("bad set", x.set(b[0], b[1], b[2]), -1000);
@@ -169,7 +169,9 @@ public final class PiecesTest {
             Check.due("again", x.rule(rule, first[rule]), most[rule]);
         }
         Check.due("no rule", x.rule(8, 1), RailOffsets.NO);
+        Check.due("no rule", x.rule(8, 0), RailOffsets.NO);
         Check.due("no rule", x.rule(-1, 1), RailOffsets.NO);
+        Check.due("no rule", x.rule(-1, 0), RailOffsets.NO);
         Check.due("no rule", x.rule(MIN, 0), RailOffsets.NO);
     }
 }

@@ -88,6 +88,7 @@ public final class StationsTest {
         Check.due("greatest turn", longest.at(200, 2), 19800);
         Check.due("greatest offset", longest.at(200, 3), 99L * 20100);
         Check.due("last piece", longest.at(200, 4), 9);
+        Check.due("last height", longest.at(200, 1), 160);
         Check.due("behind the last", longest.at(201, 0), NO);
     }
 
@@ -151,6 +152,11 @@ public final class StationsTest {
         }
         Check.due("all jump", x.joins(), 511);
         Check.due("heights", x.join(8, 1), 21);
+        x.drop();
+        Check.due("the last is gone", x.joins(), 255);
+        Check.due("the last is gone", x.join(8, 2), -2);
+        x.piece(0, 1, 0, 21);
+        Check.due("and is there again", x.joins(), 511);
         x.set(9, 2, 20);
         Check.due("the last does not", x.joins(), 255);
     }

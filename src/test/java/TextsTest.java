@@ -95,6 +95,12 @@ public final class TextsTest {
         Check.due("a film begins with 0", y.film(1, 200, 40), 40);
         y.set(0, 0, 20);
         Check.due("all 0", y.slews(1, 1), 0);
+        y.piece(1, 5, 9, 0);
+        y.drop();
+        y.film(2, 19, 8);
+        Check.due("nothing is left of the dropped", y.slews(2, 1), 0);
+        y.piece(0, 20, 0, 0);
+        Check.due("nothing is left of the dropped", y.slews(2, 1), 0);
         int[][] bad = {{-1, 1, 1}, {4, 1, 1}, {1, 0, 1}, {1, 201, 1}, {1, 1, -1}, {1, 1, 41}, {1, Integer.MAX_VALUE, 1}};
         for (int[] b : bad) {
             Check.due("bad film", y.film(b[0], b[1], b[2]), -2);
