@@ -52,6 +52,11 @@ public final class EndsTest {
         x.set(0, 3, 0);
         Check.due("a straight bends nowhere", x.meets(0), -1);
         Check.due("its bend stays", x.of(0, 2), 5);
+        x.set(0, 3, 1);
+        x.piece(2, 4, 9, 0);
+        Check.due("not with an ease behind it", x.meets(0), -1);
+        x.drop();
+        Check.due("nothing is left of the dropped", x.meets(0), 1005);
         for (int piece : new int[] {-1, 1, 10, Integer.MIN_VALUE, Integer.MAX_VALUE}) {
             Check.due("meets by no piece", x.meets(piece), -2);
         }
@@ -113,6 +118,11 @@ public final class EndsTest {
         x.rule(7, 61);
         x.rule(6, 123);
         Check.due("31 and 30", x.both(0, 2), -1);
+        x.rule(6, 121);
+        Check.due("30 and 31", x.both(0, 2), -1);
+        x.rule(7, -61);
+        x.rule(6, -121);
+        Check.due("-30 and -31", x.both(0, 2), -1);
         Check.due("bends stay", x.of(0, 2), 7);
         Check.due("bends stay", x.of(2, 2), 7);
         int[][] bad = {{0, 0}, {2, 2}, {0, 3}, {3, 0}, {-1, 0}, {0, -1}, {-1, -1}, {Integer.MIN_VALUE, 0},

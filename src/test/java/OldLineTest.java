@@ -77,13 +77,13 @@ public final class OldLineTest {
         Check.due("no sheet", x.slews(-1, 0), NO);
         Check.ints(x, 0);
         Check.due("all 0: the first", x.slews(0, 0), 1);
-        // Slews 4, 2, -9 off a line of versines that are not 0.
+        // Slews 4, 2, 2 off a line of versines that are not 0.
         RailOffsets z = new RailOffsets();
         z.piece(1, 2, 6, 0);
-        z.piece(1, 1, 9, 0);
+        z.piece(1, 1, -2, 0);
         Check.ints(z, 0, 10, 0, 0);
-        Check.due("widest", z.slews(0, 0), 3);
-        Check.due("together", z.slews(0, 1), 15);
+        Check.due("widest", z.slews(0, 0), 1);
+        Check.due("together", z.slews(0, 1), 8);
         // Together they go beyond the ints.
         RailOffsets y = new RailOffsets();
         for (int i = 0; i < 10; i++) {

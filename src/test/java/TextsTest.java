@@ -243,6 +243,11 @@ public final class TextsTest {
         fault("drop 1000", 5);
         fault("speed 12345678901234567890", 6);
         fault("drop;drop;drop;drop;drop;drop;drop;drop;drop;drop;drop;drop;", 60);
+        RailOffsets x = new RailOffsets();
+        Check.due("ends behind a word", Check.told(x, "drop drop"), -105);
+        Check.due("and the next begins anew", Check.told(x, "x"), -100);
+        Check.due("ends behind a number", Check.told(x, "speed 1 2"), -108);
+        Check.due("and the next begins anew", Check.told(x, "speed -"), -106);
         fault("abcdefghijklmnopqrstuvwxyzabcdefghijklmnopqrstuvwxyzabcdefgh", 0);
     }
 }
