@@ -41,6 +41,14 @@ final class Check {
         }
     }
 
+    /** All four answers of fault(). */
+    static void fault(RailOffsets x, int station, int why, int causes, int root) {
+        due("fault(0)", x.fault(0), station);
+        due("fault(1)", x.fault(1), why);
+        due("fault(2)", x.fault(2), causes);
+        due("fault(3)", x.fault(3), root);
+    }
+
     private static String where(String call) {
         return sentence.isEmpty() ? call : "[" + sentence + "] " + call;
     }

@@ -14,12 +14,6 @@ public final class EdgesOfAnswersTest {
         Check.done("EdgesOfAnswersTest");
     }
 
-    private static RailOffsets one(int kind, int length, int bend, int cant) {
-        RailOffsets x = new RailOffsets();
-        x.piece(kind, length, bend, cant);
-        return x;
-    }
-
     private static RailOffsets full() {
         RailOffsets x = new RailOffsets();
         for (int i = 0; i < 10; i++) {
@@ -40,7 +34,7 @@ public final class EdgesOfAnswersTest {
     }
 
     private static void needTells() {
-        RailOffsets x = one(1, 1, 30, 32);
+        RailOffsets x = Scene.one(1, 1, 30, 32);
         x.piece(1, 1, 29, 50);
         x.piece(0, 1, 29, 76);
         int[][] want = {{108, 1, 0, 1}, {104, 0, 0, 0}, {0, 0, 1, 1}};
@@ -71,43 +65,36 @@ public final class EdgesOfAnswersTest {
     }
 
     private static void needOfNoWhat() {
-        RailOffsets x = one(1, 2, 10, 0);
+        RailOffsets x = Scene.one(1, 2, 10, 0);
         for (int what : new int[] {-1, 4, MIN, MAX}) {
             Check.due("need(1, " + what + ")", x.need(1, what), -2);
         }
     }
 
-    private static void fault(RailOffsets x, int station, int why, int causes, int root) {
-        Check.due("fault(0)", x.fault(0), station);
-        Check.due("fault(1)", x.fault(1), why);
-        Check.due("fault(2)", x.fault(2), causes);
-        Check.due("fault(3)", x.fault(3), root);
-    }
-
     private static void noFault() {
         RailOffsets x = new RailOffsets();
-        fault(x, -1, 0, 0, 0);
+        Check.fault(x, -1, 0, 0, 0);
         x.piece(1, 20, 20, 20);
-        fault(x, -1, 0, 0, 0);
+        Check.fault(x, -1, 0, 0, 0);
         x.set(0, 2, 21);
-        fault(x, 1, 3, 1, 1);
+        Check.fault(x, 1, 3, 1, 1);
         x.drop();
-        fault(x, -1, 0, 0, 0);
+        Check.fault(x, -1, 0, 0, 0);
     }
 
     private static void faultAtTheEnds() {
         RailOffsets x = full();
-        fault(x, -1, 0, 0, 0);
+        Check.fault(x, -1, 0, 0, 0);
         x.set(9, 3, 4);
         x.set(9, 1, 22);
-        fault(x, 200, 1, 1, 1);
+        Check.fault(x, 200, 1, 1, 1);
         x.set(0, 2, 21);
-        fault(x, 1, 3, 1, 1);
+        Check.fault(x, 1, 3, 1, 1);
     }
 
     private static void faultOfNoWhat() {
         RailOffsets x = new RailOffsets();
-        RailOffsets y = one(1, 1, 99, 0);
+        RailOffsets y = Scene.one(1, 1, 99, 0);
         for (int what : new int[] {-1, 4, MIN, MAX}) {
             Check.due("without a fault", x.fault(what), -2);
             Check.due("with one", y.fault(what), -2);
@@ -126,7 +113,7 @@ public final class EdgesOfAnswersTest {
     }
 
     private static void mayOrNone() {
-        RailOffsets x = one(0, 1, 0, 75);
+        RailOffsets x = Scene.one(0, 1, 0, 75);
         x.piece(0, 1, 0, 76);
         x.piece(1, 1, 99, 0);
         x.piece(1, 1, -99, 160);
@@ -178,7 +165,7 @@ public final class EdgesOfAnswersTest {
     }
 
     private static void leastOrNone() {
-        RailOffsets x = one(0, 20, 99, 160);
+        RailOffsets x = Scene.one(0, 20, 99, 160);
         Check.due("a STRAIGHT", x.least(0), 0);
         x.set(0, 3, 1);
         x.set(0, 1, 65);
@@ -243,7 +230,7 @@ public final class EdgesOfAnswersTest {
     }
 
     private static void missOfNoWhat() {
-        RailOffsets x = one(1, 2, 3, 4);
+        RailOffsets x = Scene.one(1, 2, 3, 4);
         for (int what : new int[] {-1, 2, MIN, MAX}) {
             Check.due("miss(" + what + ")", x.miss(what), NO);
             Check.due("miss of none", new RailOffsets().miss(what), NO);
@@ -278,8 +265,11 @@ public final class EdgesOfAnswersTest {
         for (int piece : new int[] {-1, 10, MIN, MAX}) {
             Check.due("meets(" + piece + ")", y.meets(piece), -2);
         }
+        y.set(9, 3, 2);
+        y.set(9, 1, 50);
         y.drop();
         Check.due("the dropped", y.meets(9), -2);
+        Check.due("the last one, with no ease behind it any more", y.meets(8), 1000);
     }
 
     // ---- promises 19 and 20
@@ -404,7 +394,7 @@ public final class EdgesOfAnswersTest {
     }
 
     private static void slewOfNoSheet() {
-        RailOffsets x = one(0, 1, 0, 0);
+        RailOffsets x = Scene.one(0, 1, 0, 0);
         for (int sheet = 0; sheet < 4; sheet++) {
             Check.due("missing", x.slew(sheet, 0), NO);
             Check.ints(x, sheet, 9);
@@ -426,7 +416,7 @@ public final class EdgesOfAnswersTest {
     }
 
     private static void slewsTogether() {
-        RailOffsets x = one(0, 3, 0, 0);
+        RailOffsets x = Scene.one(0, 3, 0, 0);
         // Slews -5, 2, -4.
         Check.ints(x, 0, -5, 12, -13);
         Check.due("together", x.slews(0, 1), 11);
@@ -449,7 +439,7 @@ public final class EdgesOfAnswersTest {
     }
 
     private static void slewsOfNoSheet() {
-        RailOffsets x = one(0, 1, 0, 0);
+        RailOffsets x = Scene.one(0, 1, 0, 0);
         for (int what = 0; what < 3; what++) {
             for (int sheet = 0; sheet < 4; sheet++) {
                 Check.due("missing", x.slews(sheet, what), NO);
@@ -461,7 +451,7 @@ public final class EdgesOfAnswersTest {
     }
 
     private static void slewsOfNoWhat() {
-        RailOffsets x = one(0, 1, 0, 0);
+        RailOffsets x = Scene.one(0, 1, 0, 0);
         Check.ints(x, 0, 7);
         for (int what : new int[] {-1, 3, MIN, MAX}) {
             Check.due("slews(0, " + what + ")", x.slews(0, what), NO);
@@ -484,7 +474,7 @@ public final class EdgesOfAnswersTest {
         for (int piece = 0; piece < 10; piece++) {
             Check.due("by(2, " + piece + ")", x.by(2, piece), 1000);
         }
-        RailOffsets y = one(1, 1, 0, 0);
+        RailOffsets y = Scene.one(1, 1, 0, 0);
         Check.shorts(y, 0, 99);
         Check.due("99", y.by(0, 0), 1099);
         Check.shorts(y, 0, -99);
@@ -509,7 +499,7 @@ public final class EdgesOfAnswersTest {
     }
 
     private static void byMissing() {
-        RailOffsets x = one(0, 1, 0, 0);
+        RailOffsets x = Scene.one(0, 1, 0, 0);
         Check.due("missing", x.by(0, 0), -11);
         Check.due("missing, but no such PIECE", x.by(0, 1), -2);
         Check.due("missing, but no such PIECE", x.by(0, -1), -2);
@@ -530,7 +520,7 @@ public final class EdgesOfAnswersTest {
     }
 
     private static void errorsByN() {
-        RailOffsets x = one(1, 1, 99, 0);
+        RailOffsets x = Scene.one(1, 1, 99, 0);
         for (int seed : new int[] {0, 1, -1, MIN, MAX}) {
             Check.due("n 0", x.errors(seed, 0), 0);
         }
@@ -544,7 +534,7 @@ public final class EdgesOfAnswersTest {
     }
 
     private static void errorsByNoN() {
-        RailOffsets x = one(1, 1, 99, 0);
+        RailOffsets x = Scene.one(1, 1, 99, 0);
         for (int n : new int[] {-1, 10, MIN, MAX}) {
             Check.due("errors(0, " + n + ")", x.errors(0, n), NO);
             Check.due("of no line", new RailOffsets().errors(0, n), NO);
@@ -562,7 +552,7 @@ public final class EdgesOfAnswersTest {
 
     private static void lowestTerms() {
         // From MAX - 2 on the first station errs by 5, 5, 8, 7, 7, 1, 1, 1, 0, 6 without sign.
-        RailOffsets x = one(1, 1, 99, 0);
+        RailOffsets x = Scene.one(1, 1, 99, 0);
         int[][] rows = {{10, 9, 1, 1}, {10, 7, 9, 10}, {10, 6, 7, 10}, {10, 5, 3, 5}, {10, 4, 2, 5}, {8, 4, 3, 8},
             {9, 1, 4, 9}, {9, 6, 2, 3}, {8, 0, 0, 1}, {4, 5, 1, 2}, {4, 7, 3, 4}, {5, 4, 0, 1}, {1, 5, 1, 1}};
         for (int[] r : rows) {
@@ -572,7 +562,7 @@ public final class EdgesOfAnswersTest {
     }
 
     private static void badChance(int which, int[] bad) {
-        RailOffsets x = one(1, 1, 99, 0);
+        RailOffsets x = Scene.one(1, 1, 99, 0);
         RailOffsets none = new RailOffsets();
         for (int v : bad) {
             int[] a = {0, 2, 3, 4, 0};
@@ -585,7 +575,7 @@ public final class EdgesOfAnswersTest {
     }
 
     private static void goodChances() {
-        RailOffsets x = one(1, 1, 99, 0);
+        RailOffsets x = Scene.one(1, 1, 99, 0);
         Check.due("m 1, n 9, w 4", x.chance(0, 1, 9, 4, 0), 1);
         Check.due("m 20, n 9, w MAX", x.chance(0, 20, 9, MAX, 0), 1);
         Check.due("m 20, n 9, w MAX", x.chance(0, 20, 9, MAX, 1), 1);

@@ -15,12 +15,6 @@ public final class EdgesOfHostTest {
         Check.done("EdgesOfHostTest");
     }
 
-    private static RailOffsets one(int kind, int length, int bend) {
-        RailOffsets x = new RailOffsets();
-        x.piece(kind, length, bend, 0);
-        return x;
-    }
-
     private static RailOffsets full() {
         RailOffsets x = new RailOffsets();
         for (int i = 0; i < 10; i++) {
@@ -68,7 +62,7 @@ public final class EdgesOfHostTest {
     }
 
     private static void tellsFirstOrKinds() {
-        RailOffsets x = one(1, 3, 4);
+        RailOffsets x = Scene.one(1, 3, 4);
         Check.ints(x, 0, 4, 4, 4);
         Check.due("all are so", x.tells(0, 1, -1), -1);
         Check.due("a CIRCLE", x.tells(0, 1, 0), 2);
@@ -78,7 +72,7 @@ public final class EdgesOfHostTest {
     }
 
     private static void tellsNoSheet() {
-        RailOffsets x = one(1, 3, 4);
+        RailOffsets x = Scene.one(1, 3, 4);
         for (int sheet : new int[] {-1, 4, MIN, MAX}) {
             Check.due("tells(" + sheet + ", 1, -1)", x.tells(sheet, 1, -1), -2);
             Check.due("tells(" + sheet + ", 1, 0)", x.tells(sheet, 1, 0), -2);
@@ -98,7 +92,7 @@ public final class EdgesOfHostTest {
     }
 
     private static void tellsMissing() {
-        RailOffsets x = one(0, 1, 0);
+        RailOffsets x = Scene.one(0, 1, 0);
         for (int sheet = 0; sheet < 4; sheet++) {
             Check.due("no piece", x.tells(sheet, 1, -1), -11);
             Check.due("a piece", x.tells(sheet, 200, 0), -11);
@@ -117,7 +111,7 @@ public final class EdgesOfHostTest {
     }
 
     private static void tellsInOrder() {
-        RailOffsets x = one(0, 1, 0);
+        RailOffsets x = Scene.one(0, 1, 0);
         Check.due("f 0, missing", x.tells(0, 0, -1), -2);
         Check.due("f 201, missing", x.tells(0, 201, -1), -2);
         Check.due("no such PIECE, missing", x.tells(0, 1, 1), -2);
@@ -136,7 +130,7 @@ public final class EdgesOfHostTest {
     }
 
     private static void filmTruly() {
-        RailOffsets x = one(2, 3, -9);
+        RailOffsets x = Scene.one(2, 3, -9);
         Check.due("missing", x.film(3, 1, 3), 3);
         Check.due("it tells them", x.tells(3, 1, -1), -1);
         Check.ints(x, 2, 100000, 5, 6, 7, 8);
@@ -179,7 +173,7 @@ public final class EdgesOfHostTest {
     }
 
     private static void filmOfShorts() {
-        RailOffsets x = one(1, 2, -99);
+        RailOffsets x = Scene.one(1, 2, -99);
         Check.ints(x, 0, 1);
         x.film(0, 1, 2);
         Check.due("shorts", x.load(0, 0, 0, 0), 0);
@@ -190,7 +184,7 @@ public final class EdgesOfHostTest {
     }
 
     private static void filmBehind() {
-        RailOffsets x = one(1, 2, 5);
+        RailOffsets x = Scene.one(1, 2, 5);
         Check.ints(x, 0, 9, 9, 9, 9, 9);
         x.film(0, 2, 4);
         x.set(0, 0, 4);
@@ -213,7 +207,7 @@ public final class EdgesOfHostTest {
     }
 
     private static void filmBad() {
-        RailOffsets x = one(1, 2, 5);
+        RailOffsets x = Scene.one(1, 2, 5);
         Check.ints(x, 0, 3);
         int[][] bad = {{-1, 1, 1}, {4, 1, 1}, {MIN, 1, 1}, {MAX, 1, 1}, {0, 0, 1}, {0, -1, 1}, {0, 201, 1}, {0, MIN, 1},
             {0, MAX, 1}, {0, 1, -1}, {0, 1, 41}, {0, 1, MIN}, {0, 1, MAX}};
@@ -262,7 +256,7 @@ public final class EdgesOfHostTest {
     }
 
     private static void feedBehind() {
-        RailOffsets x = one(0, 1, 0);
+        RailOffsets x = Scene.one(0, 1, 0);
         // Each of the five has its place: speed and 9;drop.
         Check.due("first", x.feed(5, 's', 'p', 'e', 'e', 'd'), 5);
         Check.due("then", x.feed(2, '9', ';', 'x', 'x', 'x'), 7);
@@ -309,7 +303,7 @@ public final class EdgesOfHostTest {
     }
 
     private static void textEmpties() {
-        RailOffsets x = one(0, 1, 0);
+        RailOffsets x = Scene.one(0, 1, 0);
         Check.due("done", Check.told(x, "speed 9"), 1);
         Check.due("empty", x.count(2), 0);
         Check.due("refused", Check.told(x, "speed 201"), 0);
@@ -322,7 +316,7 @@ public final class EdgesOfHostTest {
     }
 
     private static void textTells() {
-        RailOffsets x = one(0, 1, 0);
+        RailOffsets x = Scene.one(0, 1, 0);
         Check.due("none of one", Check.told(x, "speed 201"), 0);
         Check.due("one of one", Check.told(x, "speed 200"), 1);
         Check.due("two of three", Check.told(x, "speed 1;speed 201;speed 2"), 2);
@@ -373,7 +367,7 @@ public final class EdgesOfHostTest {
     }
 
     private static void backWithoutImage() {
-        RailOffsets x = one(1, 2, 3);
+        RailOffsets x = Scene.one(1, 2, 3);
         Check.due("none", x.back(), -3);
         Check.due("the piece stands", x.at(2, 3), 9);
         Check.due("none", x.back(), -3);
@@ -382,7 +376,7 @@ public final class EdgesOfHostTest {
     }
 
     private static void backAgain() {
-        RailOffsets x = one(1, 2, 3);
+        RailOffsets x = Scene.one(1, 2, 3);
         x.rule(6, -7);
         x.image();
         for (int i = 0; i < 3; i++) {
@@ -395,7 +389,7 @@ public final class EdgesOfHostTest {
     }
 
     private static void laterImage() {
-        RailOffsets x = one(1, 2, 3);
+        RailOffsets x = Scene.one(1, 2, 3);
         x.image();
         x.piece(1, 2, 4, 0);
         x.rule(5, 9);
@@ -655,7 +649,7 @@ public final class EdgesOfHostTest {
     }
 
     private static void sheetAllNought() {
-        RailOffsets x = one(0, 20, 0);
+        RailOffsets x = Scene.one(0, 20, 0);
         x.piece(0, 20, 0, 0);
         for (int sort = 0; sort < 2; sort++) {
             x.sheet(0, sort, 40);
@@ -734,7 +728,7 @@ public final class EdgesOfHostTest {
     }
 
     private static void putShorts() {
-        RailOffsets x = one(0, 1, 0);
+        RailOffsets x = Scene.one(0, 1, 0);
         x.sheet(0, 0, 1);
         int[][] rows = {{65535, -1}, {65536, 0}, {65537, 1}, {-65537, -1}, {-65535, 1}, {MAX, -1}, {MIN, 0},
             {MIN + 5, 5}, {98304 + 32768 - 7, -7}, {999, 999}, {-999, -999}};
@@ -754,7 +748,7 @@ public final class EdgesOfHostTest {
     }
 
     private static void putInts() {
-        RailOffsets x = one(0, 1, 0);
+        RailOffsets x = Scene.one(0, 1, 0);
         x.sheet(0, 1, 1);
         int[][] rows = {{65535, 999}, {65536, 999}, {-65537, -999}, {MAX, 999}, {MIN, -999}, {32768, 999}, {-32769, -999}};
         for (int[] r : rows) {
@@ -775,7 +769,7 @@ public final class EdgesOfHostTest {
     }
 
     private static void putOutside() {
-        RailOffsets x = one(0, 5, 0);
+        RailOffsets x = Scene.one(0, 5, 0);
         Check.ints(x, 3, 7, 8, 9);
         for (int i : new int[] {-1, 3, 39, 40, MIN, MAX}) {
             Check.due("item " + i, x.put(3, i, 1), -12);
@@ -801,7 +795,7 @@ public final class EdgesOfHostTest {
     }
 
     private static void copyTells() {
-        RailOffsets x = one(0, 6, 0);
+        RailOffsets x = Scene.one(0, 6, 0);
         Check.ints(x, 0, 1, 2, 3, 4);
         Check.ints(x, 1, 9, 9, 9, 9, 9);
         Check.due("two", x.copy(0, 2, 1, 1, 2), 2);
@@ -823,7 +817,7 @@ public final class EdgesOfHostTest {
     }
 
     private static void copyToItself() {
-        RailOffsets x = one(0, 6, 0);
+        RailOffsets x = Scene.one(0, 6, 0);
         Check.shorts(x, 0, 1, 2, 3, 4, 5);
         Check.due("forth", x.copy(0, 0, 0, 1, 4), 4);
         holds(x, 0, 1, 1, 2, 3, 4);
@@ -834,7 +828,7 @@ public final class EdgesOfHostTest {
     }
 
     private static void copyOfNone() {
-        RailOffsets x = one(0, 6, 0);
+        RailOffsets x = Scene.one(0, 6, 0);
         Check.ints(x, 0, 1, 2);
         Check.ints(x, 1, 3, 4, 5);
         Check.due("in front", x.copy(0, 0, 1, 0, 0), 0);
@@ -851,7 +845,7 @@ public final class EdgesOfHostTest {
     }
 
     private static void copyOutside() {
-        RailOffsets x = one(0, 6, 0);
+        RailOffsets x = Scene.one(0, 6, 0);
         Check.ints(x, 0, 1, 2, 3);
         Check.ints(x, 1, 4, 5, 6, 7);
         int[][] outside = {{-1, 0, 1}, {3, 0, 1}, {2, 0, 2}, {0, 0, 4}, {0, -1, 1}, {0, 4, 1}, {0, 3, 2}, {0, 2, 3}};
@@ -866,7 +860,7 @@ public final class EdgesOfHostTest {
     }
 
     private static void copyBelow() {
-        RailOffsets x = one(0, 6, 0);
+        RailOffsets x = Scene.one(0, 6, 0);
         Check.ints(x, 0, 1, 2, 3);
         Check.ints(x, 1, 4, 5, 6);
         for (int n : new int[] {-1, -2, -3, MIN}) {
@@ -878,7 +872,7 @@ public final class EdgesOfHostTest {
     }
 
     private static void copyWrapsAround() {
-        RailOffsets x = one(0, 6, 0);
+        RailOffsets x = Scene.one(0, 6, 0);
         Check.ints(x, 0, 1, 2, 3);
         Check.ints(x, 1, 4, 5, 6);
         int[][] outside = {{MAX, 0, 1}, {0, MAX, 1}, {1, 1, MAX}, {MAX, MAX, MAX}, {MIN, 0, 1}, {0, MIN, 1},

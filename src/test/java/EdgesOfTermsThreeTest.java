@@ -16,12 +16,6 @@ public final class EdgesOfTermsThreeTest {
         Check.done("EdgesOfTermsThreeTest");
     }
 
-    private static RailOffsets one(int kind, int length, int bend) {
-        RailOffsets x = new RailOffsets();
-        x.piece(kind, length, bend, 0);
-        return x;
-    }
-
     // ---- old lines
 
     private static void oldLines() {
@@ -43,7 +37,7 @@ public final class EdgesOfTermsThreeTest {
     }
 
     private static void notTold() {
-        RailOffsets x = one(1, 4, 1);
+        RailOffsets x = Scene.one(1, 4, 1);
         Check.ints(x, 0, 1, 1);
         slews(x, 0, 0, 0, 0, -1, -3);
         Check.shorts(x, 1, 1, 1, 1);
@@ -51,7 +45,7 @@ public final class EdgesOfTermsThreeTest {
     }
 
     private static void toldNone() {
-        RailOffsets x = one(1, 3, 2);
+        RailOffsets x = Scene.one(1, 3, 2);
         Check.ints(x, 0);
         slews(x, 0, 0, -2, -6, -12);
         Check.shorts(x, 0);
@@ -59,7 +53,7 @@ public final class EdgesOfTermsThreeTest {
     }
 
     private static void toldBehind() {
-        RailOffsets x = one(1, 2, 2);
+        RailOffsets x = Scene.one(1, 2, 2);
         Check.ints(x, 0, 2, 2, 900, -900);
         slews(x, 0, 0, 0, 0);
         Check.due("together", x.slews(0, 1), 0);
@@ -69,7 +63,7 @@ public final class EdgesOfTermsThreeTest {
     }
 
     private static void takenFor() {
-        RailOffsets x = one(0, 1, 0);
+        RailOffsets x = Scene.one(0, 1, 0);
         int[][] ints = {{998, 998}, {999, 999}, {1000, 999}, {MAX, 999}, {-998, -998}, {-999, -999}, {-1000, -999},
             {MIN, -999}, {65536, 999}, {-65536, -999}};
         for (int[] v : ints) {
@@ -84,7 +78,7 @@ public final class EdgesOfTermsThreeTest {
     }
 
     private static void slewHasASign() {
-        RailOffsets x = one(1, 2, 10);
+        RailOffsets x = Scene.one(1, 2, 10);
         Check.ints(x, 0, 11, 9);
         slews(x, 0, 0, 1, 1);
         Check.ints(x, 0, 9, 10);
@@ -94,7 +88,7 @@ public final class EdgesOfTermsThreeTest {
     }
 
     private static void widest() {
-        RailOffsets x = one(0, 4, 0);
+        RailOffsets x = Scene.one(0, 4, 0);
         // Slews 3, 3, 3, 3.
         Check.ints(x, 0, 3, -3);
         Check.due("all like", x.slews(0, 0), 1);
@@ -112,7 +106,7 @@ public final class EdgesOfTermsThreeTest {
     }
 
     private static void widestOfNought() {
-        RailOffsets x = one(1, 3, 5);
+        RailOffsets x = Scene.one(1, 3, 5);
         Check.ints(x, 0, 5, 5, 5);
         Check.due("widest", x.slews(0, 0), 1);
     }
@@ -138,14 +132,14 @@ public final class EdgesOfTermsThreeTest {
     private static void byAtItsEnds() {
         int[][] rows = {{98, 1098}, {99, 1099}, {100, 1099}, {999, 1099}, {-98, 902}, {-99, 901}, {-100, 901}, {-999, 901}};
         for (int[] r : rows) {
-            RailOffsets x = one(1, 1, 0);
+            RailOffsets x = Scene.one(1, 1, 0);
             Check.ints(x, 0, r[0]);
             Check.due("of " + r[0], x.by(0, 0), r[1]);
         }
     }
 
     private static void byOfLikeOnes() {
-        RailOffsets x = one(0, 3, 50);
+        RailOffsets x = Scene.one(0, 3, 50);
         Check.ints(x, 0, 1, 2, 3);
         Check.due("a STRAIGHT: all are like", x.by(0, 0), 901);
         x.set(0, 3, 5);
@@ -155,7 +149,7 @@ public final class EdgesOfTermsThreeTest {
         Check.due("a FLAT: -5 and -4 are like", x.by(0, 0), 995);
         Check.ints(x, 0);
         Check.due("a FLAT: -1, 0, 1 are like", x.by(0, 0), 999);
-        RailOffsets y = one(1, 1, 0);
+        RailOffsets y = Scene.one(1, 1, 0);
         y.piece(0, 1, 0, 0);
         Check.ints(y, 0, 3, 1);
         // The greatest of 3 - b and 7 - 2 b without sign is 1 by 3 and by 4.
@@ -164,12 +158,12 @@ public final class EdgesOfTermsThreeTest {
 
     private static void byTheGreatest() {
         // Slews 12 - b and -3 b: by 3 they are 9 and -9. By 0 their sum without sign would be least, by 1 that of squares.
-        RailOffsets x = one(1, 2, 77);
+        RailOffsets x = Scene.one(1, 2, 77);
         Check.ints(x, 0, 12, -24);
         Check.due("not the least sum", x.by(0, 0), 1003);
         Check.due("its bend stays", x.of(0, 2), 77);
         // The ease behind goes by it.
-        RailOffsets y = one(1, 1, 0);
+        RailOffsets y = Scene.one(1, 1, 0);
         y.piece(2, 2, 0, 0);
         Check.ints(y, 0, 8, 4, 0);
         Check.due("all is as it was", y.by(0, 0), 1008);
@@ -191,7 +185,7 @@ public final class EdgesOfTermsThreeTest {
         // Of one station: seed, by n 1, by n 9; -1 is a z below 0, and MAX one whose product is beyond the ints.
         int[][] rows = {{0, 1, 4}, {1, 0, 4}, {-1, 1, 8}, {MAX, 1, 8}, {MIN, 0, 7}, {5, 0, 3}};
         for (int[] r : rows) {
-            RailOffsets x = one(0, 1, 0);
+            RailOffsets x = Scene.one(0, 1, 0);
             Check.due("errors(" + r[0] + ", 0)", x.errors(r[0], 0), 0);
             Check.due("errors(" + r[0] + ", 1)", x.errors(r[0], 1), r[1]);
             Check.due("errors(" + r[0] + ", 9)", x.errors(r[0], 9), r[2]);
@@ -200,7 +194,7 @@ public final class EdgesOfTermsThreeTest {
 
     private static void errorsAreAnew() {
         // Seed 0 errs by -4, 9, -1: turns -4, 5, 4, slews -4, 1, 5. MIN errs by -7, -7, 2: slews -7, -21, -33.
-        RailOffsets x = one(0, 2, 0);
+        RailOffsets x = Scene.one(0, 2, 0);
         Check.due("two", x.errors(0, 9), 4);
         Check.due("two", x.errors(MIN, 9), 21);
         x.set(0, 0, 3);
@@ -233,7 +227,7 @@ public final class EdgesOfTermsThreeTest {
 
     private static void errorsAreAdded() {
         // What the line's versines are does not matter, as the slew takes them away again.
-        RailOffsets x = one(1, 3, 99);
+        RailOffsets x = Scene.one(1, 3, 99);
         Check.due("three", x.errors(0, 9), 5);
         x.set(0, 3, 4);
         x.set(0, 1, -99);
@@ -248,7 +242,7 @@ public final class EdgesOfTermsThreeTest {
 
     private static void seedsUpToTwenty() {
         // Seeds 0 .. 19 err at the first station by 4, 4, 9, 2 .. without sign, as errors() tells one by one.
-        RailOffsets x = one(0, 1, 0);
+        RailOffsets x = Scene.one(0, 1, 0);
         int most = 0;
         int below = 0;
         for (int seed = 0; seed < 20; seed++) {
@@ -269,7 +263,7 @@ public final class EdgesOfTermsThreeTest {
 
     private static void seedsWrapAround() {
         // From MAX - 2 on they err by 5, 5, -8, -7, -7, -1, -1, -1, 0, 6.
-        RailOffsets x = one(0, 1, 0);
+        RailOffsets x = Scene.one(0, 1, 0);
         chance(x, MAX, 1, 7, 0, 1);
         chance(x, MAX, 2, 7, 1, 2);
         chance(x, MAX, 2, 8, 1, 1);
@@ -281,7 +275,7 @@ public final class EdgesOfTermsThreeTest {
     }
 
     private static void wOrLess() {
-        RailOffsets x = one(0, 2, 0);
+        RailOffsets x = Scene.one(0, 2, 0);
         chance(x, MIN, 1, 21, 1, 1);
         chance(x, MIN, 1, 20, 0, 1);
         chance(x, MIN, 1, MAX, 1, 1);
@@ -301,7 +295,7 @@ public final class EdgesOfTermsThreeTest {
     }
 
     private static void eightAtMost() {
-        RailOffsets x = one(1, 10, 3);
+        RailOffsets x = Scene.one(1, 10, 3);
         Check.ints(x, 0, 3, 3, 3, 3, 3, 3, 3, 4);
         Check.due("eight", x.tells(0, 1, -1), 7);
         Check.due("eight", x.tells(0, 1, 0), 0);
@@ -314,7 +308,7 @@ public final class EdgesOfTermsThreeTest {
     }
 
     private static void numbersAsTheyAre() {
-        RailOffsets x = one(1, 2, 7);
+        RailOffsets x = Scene.one(1, 2, 7);
         for (int v : new int[] {65543, -65529, 6, 8, -7, MIN, MAX}) {
             Check.ints(x, 0, v);
             Check.due("the int " + v, x.tells(0, 1, -1), 0);
@@ -326,7 +320,7 @@ public final class EdgesOfTermsThreeTest {
     }
 
     private static void firstOtherwise() {
-        RailOffsets x = one(2, 4, 8);
+        RailOffsets x = Scene.one(2, 4, 8);
         Check.ints(x, 0, 2, 4, 6, 8);
         Check.due("none", x.tells(0, 1, -1), -1);
         for (int i = 3; i >= 0; i--) {
@@ -339,7 +333,7 @@ public final class EdgesOfTermsThreeTest {
     }
 
     private static void stationIsNotThere() {
-        RailOffsets x = one(0, 2, 0);
+        RailOffsets x = Scene.one(0, 2, 0);
         Check.ints(x, 0, 0, 0);
         Check.due("both are there", x.tells(0, 1, -1), -1);
         Check.due("one is not", x.tells(0, 2, -1), 1);
@@ -365,12 +359,12 @@ public final class EdgesOfTermsThreeTest {
         // By BEND 12 of two stations: straight, circle, ease, reverse, sharp, flat.
         int[][] rows = {{0, 0}, {12, 12}, {6, 12}, {-12, -12}, {3, 12}, {6, 6}};
         for (int kind = 0; kind < 6; kind++) {
-            RailOffsets x = one(1, 2, 12);
+            RailOffsets x = Scene.one(1, 2, 12);
             Check.ints(x, 0, rows[kind]);
             Check.due("kind " + kind, x.tells(0, 1, 0), 1 << kind);
             Check.due("its kind stays", x.of(0, 0), 1);
         }
-        RailOffsets y = one(5, 1, 12);
+        RailOffsets y = Scene.one(5, 1, 12);
         Check.ints(y, 0, 12);
         Check.due("of one station: circle, ease, sharp", y.tells(0, 1, 0), 2 + 4 + 16);
         Check.ints(y, 0, 6);
@@ -400,7 +394,7 @@ public final class EdgesOfTermsThreeTest {
 
     /** The text has its FAULT there; the tape is empty then and nothing is done. */
     private static void fault(String text, int place) {
-        RailOffsets x = one(1, 1, 1);
+        RailOffsets x = Scene.one(1, 1, 1);
         Check.due("text '" + text + "'", Check.told(x, text), -100 - place);
         Check.due("the tape", x.count(2), 0);
         Check.due("the pieces", x.count(0), 1);
@@ -410,7 +404,7 @@ public final class EdgesOfTermsThreeTest {
 
     /** The text is done, as many clauses of it as are told, on a line of one piece. */
     private static RailOffsets good(String text, int done) {
-        RailOffsets x = one(1, 1, 1);
+        RailOffsets x = Scene.one(1, 1, 1);
         Check.due("text '" + text + "'", Check.told(x, text), done);
         Check.due("the tape", x.count(2), 0);
         return x;
@@ -531,7 +525,7 @@ public final class EdgesOfTermsThreeTest {
         for (int b = 0; b < 256; b++) {
             boolean letter = b >= 'a' && b <= 'z';
             boolean known = letter || b >= '0' && b <= '9' || b == '-' || b == ';' || b == 32 || b == 10;
-            RailOffsets x = one(1, 1, 1);
+            RailOffsets x = Scene.one(1, 1, 1);
             Check.feed(x, "drop ");
             x.feed(1, b, 0, 0, 0, 0);
             // Blanks may stand there, a ; is to be followed, all else can't stand there.
@@ -690,7 +684,7 @@ public final class EdgesOfTermsThreeTest {
         good("speed 201", 0);
         good("drop;drop;drop", 1);
         // What it was may be below 0, and is no refusal.
-        RailOffsets x = one(1, 1, -99);
+        RailOffsets x = Scene.one(1, 1, -99);
         Check.due("it was -99, then -2", Check.told(x, "bend 0 -2;bend 0 -1;bend 0 0"), 3);
     }
 
@@ -698,7 +692,7 @@ public final class EdgesOfTermsThreeTest {
         fault("drop;speed 1;bend 0 9;", 22);
         fault("speed 1;drop;x", 13);
         // The next text begins anew.
-        RailOffsets x = one(1, 1, 1);
+        RailOffsets x = Scene.one(1, 1, 1);
         Check.due("too early", Check.told(x, "speed"), -105);
         Check.due("it does not go on", Check.told(x, " 9"), -101);
         Check.due("nor is it done later", Check.told(x, "drop"), 1);
@@ -706,7 +700,7 @@ public final class EdgesOfTermsThreeTest {
     }
 
     private static void nothingIsReadAgain() {
-        RailOffsets x = one(1, 1, 1);
+        RailOffsets x = Scene.one(1, 1, 1);
         x.piece(1, 1, 2, 0);
         Check.due("two clauses", Check.told(x, "speed 123;drop"), 2);
         Check.due("one clause", Check.told(x, "speed 1"), 1);
@@ -719,6 +713,10 @@ public final class EdgesOfTermsThreeTest {
         Check.due("a number", Check.told(x, "bend 0 7"), 0);
         Check.due("no number behind it", Check.told(x, "bend 0"), -106);
         Check.due("no number behind it", Check.told(x, "bend "), -105);
+        Check.due("its fault is a word", Check.told(x, "drop drop"), -105);
+        Check.due("which is no other one", Check.told(x, "x"), -100);
+        Check.due("its fault is a number", Check.told(x, "speed 1 2"), -108);
+        Check.due("which is no other one", Check.told(x, "speed -"), -106);
     }
 
     // ---- images and sheets
@@ -761,7 +759,7 @@ public final class EdgesOfTermsThreeTest {
     }
 
     private static void imageKeepsNotMore() {
-        RailOffsets x = one(0, 3, 0);
+        RailOffsets x = Scene.one(0, 3, 0);
         Check.ints(x, 0, 5);
         Check.feed(x, "drop");
         x.image();
@@ -788,7 +786,7 @@ public final class EdgesOfTermsThreeTest {
     }
 
     private static void fourSheets() {
-        RailOffsets x = one(0, 1, 0);
+        RailOffsets x = Scene.one(0, 1, 0);
         for (int sheet = 0; sheet < 4; sheet++) {
             Check.ints(x, sheet, 10 + sheet);
         }
@@ -803,7 +801,7 @@ public final class EdgesOfTermsThreeTest {
     }
 
     private static void missingAtFirst() {
-        RailOffsets x = one(0, 1, 0);
+        RailOffsets x = Scene.one(0, 1, 0);
         for (int sheet = 0; sheet < 4; sheet++) {
             Check.due("put", x.put(sheet, 0, 0), -11);
             Check.due("slew", x.slew(sheet, 0), NO);
@@ -817,7 +815,7 @@ public final class EdgesOfTermsThreeTest {
     }
 
     private static void shortsAndInts() {
-        RailOffsets x = one(0, 1, 0);
+        RailOffsets x = Scene.one(0, 1, 0);
         x.sheet(0, 0, 4);
         x.sheet(1, 1, 4);
         Check.due("shorts", x.load(0, 0, 0, 1), 0);
@@ -831,7 +829,7 @@ public final class EdgesOfTermsThreeTest {
     }
 
     private static void filmGoesOn() {
-        RailOffsets x = one(1, 3, 7);
+        RailOffsets x = Scene.one(1, 3, 7);
         Check.due("film", x.film(0, 2, 4), 4);
         x.set(0, 3, 0);
         x.set(0, 0, 5);

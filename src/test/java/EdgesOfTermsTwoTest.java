@@ -12,12 +12,6 @@ public final class EdgesOfTermsTwoTest {
         Check.done("EdgesOfTermsTwoTest");
     }
 
-    private static RailOffsets one(int kind, int length, int bend, int cant) {
-        RailOffsets x = new RailOffsets();
-        x.piece(kind, length, bend, cant);
-        return x;
-    }
-
     // ---- joins
 
     private static void joins() {
@@ -31,7 +25,7 @@ public final class EdgesOfTermsTwoTest {
     }
 
     private static void joinOfEases() {
-        RailOffsets x = one(2, 2, 10, 20);
+        RailOffsets x = Scene.one(2, 2, 10, 20);
         x.piece(2, 3, 4, 5);
         // Versines 5, 10, 8, 6, 4; heights 10, 20, 15, 10, 5.
         Check.due("versines", x.join(0, 0), 2);
@@ -42,7 +36,7 @@ public final class EdgesOfTermsTwoTest {
     }
 
     private static void joinHasNoSign() {
-        RailOffsets x = one(1, 1, -99, 160);
+        RailOffsets x = Scene.one(1, 1, -99, 160);
         x.piece(1, 1, 99, 0);
         Check.due("versines", x.join(0, 0), 198);
         Check.due("heights", x.join(0, 1), 160);
@@ -64,7 +58,7 @@ public final class EdgesOfTermsTwoTest {
     }
 
     private static void jumpsByVersines() {
-        RailOffsets x = one(1, 1, 10, 0);
+        RailOffsets x = Scene.one(1, 1, 10, 0);
         x.piece(1, 1, 15, 0);
         jumps(x, 0);
         x.set(1, 1, 16);
@@ -78,7 +72,7 @@ public final class EdgesOfTermsTwoTest {
     }
 
     private static void jumpsByHeights() {
-        RailOffsets x = one(1, 1, 0, 30);
+        RailOffsets x = Scene.one(1, 1, 0, 30);
         x.piece(1, 1, 0, 50);
         jumps(x, 0);
         x.set(1, 2, 51);
@@ -92,7 +86,7 @@ public final class EdgesOfTermsTwoTest {
     }
 
     private static void jumpsByTheEnds() {
-        RailOffsets x = one(1, 1, 0, 0);
+        RailOffsets x = Scene.one(1, 1, 0, 0);
         x.piece(1, 1, 0, 0);
         x.rule(4, 0);
         jumps(x, 0);
@@ -106,7 +100,7 @@ public final class EdgesOfTermsTwoTest {
     }
 
     private static void rampAtItsEnds() {
-        RailOffsets x = one(1, 1, 0, 0);
+        RailOffsets x = Scene.one(1, 1, 0, 0);
         x.piece(1, 1, 0, 0);
         x.rule(3, 0);
         jumps(x, 0);
@@ -133,7 +127,7 @@ public final class EdgesOfTermsTwoTest {
         int[][] needs = {{60, 1, 3}, {60, -1, 3}, {60, 5, 18}, {10, 9, 0}, {10, 10, 1}, {10, -10, 1}, {10, 19, 1},
             {1, 99, 0}, {4, 62, 0}, {4, 63, 1}, {0, 99, 0}, {200, 0, 0}, {200, 99, 3960}, {200, -99, 3960}};
         for (int[] n : needs) {
-            RailOffsets x = one(1, 1, n[1], 0);
+            RailOffsets x = Scene.one(1, 1, n[1], 0);
             x.rule(5, n[0]);
             Check.due("need by " + n[0] + " of " + n[1], x.need(1, 0), n[2]);
         }
@@ -144,7 +138,7 @@ public final class EdgesOfTermsTwoTest {
         int[][] rows = {{25, 75, 0}, {24, 75, 1}, {0, 100, 0}, {0, 99, 1}, {100, 0, 0}, {99, 0, 1}, {160, 0, 0}};
         for (int[] r : rows) {
             for (int bend : new int[] {10, -10}) {
-                RailOffsets x = one(1, 1, bend, r[0]);
+                RailOffsets x = Scene.one(1, 1, bend, r[0]);
                 x.rule(5, 100);
                 x.rule(1, r[1]);
                 Check.due("height " + r[0] + ", LACK " + r[1], x.need(1, 1), r[2]);
@@ -157,7 +151,7 @@ public final class EdgesOfTermsTwoTest {
         int[][] rows = {{125, 75, 0}, {126, 75, 1}, {150, 100, 0}, {151, 100, 1}, {50, 0, 0}, {51, 0, 1}, {0, 0, 0}};
         for (int[] r : rows) {
             for (int bend : new int[] {5, -5}) {
-                RailOffsets x = one(1, 1, bend, r[0]);
+                RailOffsets x = Scene.one(1, 1, bend, r[0]);
                 x.rule(5, 100);
                 x.rule(2, r[1]);
                 Check.due("height " + r[0] + ", EXCESS " + r[1], x.need(1, 2), r[2]);
@@ -169,7 +163,7 @@ public final class EdgesOfTermsTwoTest {
         int[][] rows = {{50, 70, 20, 0}, {50, 71, 20, 1}, {50, 30, 20, 0}, {50, 29, 20, 1}, {50, 50, 0, 0},
             {50, 51, 0, 1}, {50, 49, 0, 1}, {0, 160, 160, 0}, {0, 160, 159, 1}, {160, 0, 160, 0}, {160, 0, 159, 1}};
         for (int[] r : rows) {
-            RailOffsets x = one(0, 2, 0, r[0]);
+            RailOffsets x = Scene.one(0, 2, 0, r[0]);
             x.piece(0, 2, 0, r[1]);
             x.rule(3, r[2]);
             Check.due("from " + r[0] + " to " + r[1], x.need(3, 3), r[3]);
@@ -179,7 +173,7 @@ public final class EdgesOfTermsTwoTest {
     }
 
     private static void steepAtTheFirst() {
-        RailOffsets x = one(0, 1, 0, 20);
+        RailOffsets x = Scene.one(0, 1, 0, 20);
         Check.due("20 of 20", x.need(1, 3), 0);
         x.set(0, 2, 21);
         Check.due("21 of 20", x.need(1, 3), 1);
@@ -199,69 +193,62 @@ public final class EdgesOfTermsTwoTest {
         Check.holds("WHY: 1, 2, 3 (the first of these)", EdgesOfTermsTwoTest::whyIsTheFirst);
     }
 
-    private static void fault(RailOffsets x, int station, int why, int causes, int root) {
-        Check.due("fault(0)", x.fault(0), station);
-        Check.due("fault(1)", x.fault(1), why);
-        Check.due("fault(2)", x.fault(2), causes);
-        Check.due("fault(3)", x.fault(3), root);
-    }
-
     private static void firstOfSeveral() {
         // Station 2 is steep, 4 is too high, 6 lacks: the first counts, not the first of 1, 2, 3.
-        RailOffsets x = one(0, 1, 0, 0);
+        RailOffsets x = Scene.one(0, 1, 0, 0);
         x.piece(0, 2, 0, 21);
         x.piece(0, 2, 0, 76);
         x.piece(1, 1, 99, 76);
-        fault(x, 2, 3, 2, 4);
+        Check.fault(x, 2, 3, 2, 4);
         x.set(1, 2, 20);
-        fault(x, 4, 2, 2, 3);
+        Check.fault(x, 4, 2, 2, 3);
         x.set(2, 2, 20);
-        fault(x, 6, 1, 2, 2);
+        Check.fault(x, 6, 1, 2, 2);
         x.set(3, 1, 0);
         x.set(3, 2, 40);
-        fault(x, -1, 0, 0, 0);
+        Check.fault(x, -1, 0, 0, 0);
     }
 
     private static void firstAndLast() {
-        RailOffsets x = one(1, 20, 99, 0);
-        fault(x, 1, 1, 2, 2);
+        RailOffsets x = Scene.one(1, 20, 99, 0);
+        Check.fault(x, 1, 1, 2, 2);
         x.set(0, 1, 0);
         for (int i = 1; i < 10; i++) {
             x.piece(0, 20, 0, 0);
         }
-        fault(x, -1, 0, 0, 0);
+        Check.fault(x, -1, 0, 0, 0);
         x.set(9, 3, 2);
         x.set(9, 1, 21);
         // By speed 60 a versine of 21 needs 75, and 22 needs 79.
-        fault(x, -1, 0, 0, 0);
+        Check.fault(x, -1, 0, 0, 0);
         x.set(9, 1, 22);
-        fault(x, 200, 1, 1, 1);
+        Check.fault(x, 200, 1, 1, 1);
     }
 
     private static void faultBySpeed() {
-        RailOffsets x = one(1, 1, 22, 0);
-        fault(x, 1, 1, 1, 1);
+        RailOffsets x = Scene.one(1, 1, 22, 0);
+        Check.fault(x, 1, 1, 1, 1);
         x.rule(5, 58);
         // 3364 times 22 by 1000 is 74; by 59 it is 76.
-        fault(x, -1, 0, 0, 0);
+        Check.fault(x, -1, 0, 0, 0);
         x.rule(5, 59);
-        fault(x, 1, 1, 1, 1);
+        Check.fault(x, 1, 1, 1, 1);
     }
 
     private static void whyIsTheFirst() {
         // It lacks and is steep.
-        RailOffsets x = one(1, 1, 40, 21);
+        RailOffsets x = Scene.one(1, 1, 40, 21);
         Check.due("it lacks", x.need(1, 1), 1);
         Check.due("it is steep", x.need(1, 3), 1);
-        fault(x, 1, 1, 1, 1);
+        Check.fault(x, 1, 1, 1, 1);
         // It is too high and steep.
-        RailOffsets y = one(1, 1, 0, 76);
+        RailOffsets y = Scene.one(1, 1, 0, 76);
         Check.due("it is too high", y.need(1, 2), 1);
         Check.due("it is steep", y.need(1, 3), 1);
-        fault(y, 1, 2, 2, 3);
+        Check.fault(y, 1, 2, 2, 3);
         // It is steep alone.
-        RailOffsets z = one(1, 1, 0, 75);
-        fault(z, 1, 3, 1, 1);
+        RailOffsets z = Scene.one(1, 1, 0, 75);
+        Check.fault(z, 1, 3, 1, 1);
     }
 
     private static void causes() {
@@ -277,85 +264,85 @@ public final class EdgesOfTermsTwoTest {
     private static void causesOfALack() {
         int[][] rows = {{50, 1, 1}, {51, 2, 2}, {-50, 1, 1}, {-51, 2, 2}, {99, 2, 2}, {-99, 2, 2}};
         for (int[] r : rows) {
-            RailOffsets x = one(1, 1, r[0], 0);
-            fault(x, 1, 1, r[1], r[2]);
+            RailOffsets x = Scene.one(1, 1, r[0], 0);
+            Check.fault(x, 1, 1, r[1], r[2]);
         }
     }
 
     private static void causesByTheBend() {
         // A versine of 49 by a BEND of 99; one of 50 behind 20 stations to 51.
-        RailOffsets x = one(5, 1, 99, 0);
-        fault(x, 1, 1, 2, 2);
-        RailOffsets y = one(2, 20, 51, 0);
+        RailOffsets x = Scene.one(5, 1, 99, 0);
+        Check.fault(x, 1, 1, 2, 2);
+        RailOffsets y = Scene.one(2, 20, 51, 0);
         y.rule(1, 0);
-        fault(y, 1, 1, 2, 2);
+        Check.fault(y, 1, 1, 2, 2);
         // A BEND of 50 behind one of 99, so that the VERSINE of its first STATION is above 50.
-        RailOffsets z = one(1, 1, 99, 160);
+        RailOffsets z = Scene.one(1, 1, 99, 160);
         z.piece(2, 2, 50, 0);
         z.rule(1, 140);
         z.rule(3, 160);
         z.rule(5, 55);
         Check.due("its versine", z.at(2, 0), 75);
-        fault(z, 2, 1, 1, 1);
+        Check.fault(z, 2, 1, 1, 1);
     }
 
     private static void causesOfAnExcess() {
-        RailOffsets x = one(1, 1, 20, 148);
+        RailOffsets x = Scene.one(1, 1, 20, 148);
         // By speed 60 a versine of 20 needs 72.
-        fault(x, 1, 2, 2, 3);
+        Check.fault(x, 1, 2, 2, 3);
         x.set(0, 2, 147);
         x.rule(3, 160);
-        fault(x, -1, 0, 0, 0);
+        Check.fault(x, -1, 0, 0, 0);
     }
 
     private static void causesByWhyAlone() {
         // Too high by a speed of 0, with a BEND above 50, behind a join that jumps in both.
-        RailOffsets x = one(0, 1, 0, 0);
+        RailOffsets x = Scene.one(0, 1, 0, 0);
         x.piece(1, 1, 99, 100);
         x.rule(5, 0);
-        fault(x, 2, 2, 2, 3);
+        Check.fault(x, 2, 2, 2, 3);
         // It lacks behind such a join, with a BEND of 50.
         x.rule(5, 200);
         x.set(1, 1, 50);
-        fault(x, 2, 1, 1, 1);
+        Check.fault(x, 2, 1, 1, 1);
         // Steep alone with a BEND above 50: the JOIN and the VERSINES are asked, no BEND is.
         x.rule(5, 0);
         x.set(1, 1, 99);
         x.set(1, 2, 21);
-        fault(x, 2, 3, 3, 5);
+        Check.fault(x, 2, 3, 3, 5);
     }
 
     private static void causesWithinAPiece() {
-        RailOffsets x = one(0, 2, 0, 0);
+        RailOffsets x = Scene.one(0, 2, 0, 0);
         x.piece(2, 2, 99, 41);
         x.rule(5, 0);
         // Heights 20, 41: its second station is steep, and versines are 50 apart there.
-        fault(x, 4, 3, 1, 1);
+        Check.fault(x, 4, 3, 1, 1);
         x.set(1, 2, 42);
-        fault(x, 3, 3, 3, 5);
+        Check.fault(x, 3, 3, 3, 5);
     }
 
     private static void causesOfPieceNought() {
-        RailOffsets x = one(1, 2, 99, 21);
+        RailOffsets x = Scene.one(1, 2, 99, 21);
         x.rule(5, 0);
-        fault(x, 1, 3, 1, 1);
+        Check.fault(x, 1, 3, 1, 1);
         x.set(0, 2, 20);
         x.piece(1, 1, 99, 41);
-        fault(x, 3, 3, 2, 4);
+        Check.fault(x, 3, 3, 2, 4);
     }
 
     private static void causesByVersines() {
-        RailOffsets x = one(1, 1, 10, 20);
+        RailOffsets x = Scene.one(1, 1, 10, 20);
         x.piece(1, 1, 15, 41);
-        fault(x, 2, 3, 2, 4);
+        Check.fault(x, 2, 3, 2, 4);
         x.set(1, 1, 16);
-        fault(x, 2, 3, 3, 5);
+        Check.fault(x, 2, 3, 3, 5);
         x.set(1, 1, 5);
-        fault(x, 2, 3, 2, 4);
+        Check.fault(x, 2, 3, 2, 4);
         x.set(1, 1, 4);
-        fault(x, 2, 3, 3, 5);
+        Check.fault(x, 2, 3, 3, 5);
         x.rule(4, 6);
-        fault(x, 2, 3, 2, 4);
+        Check.fault(x, 2, 3, 2, 4);
     }
 
     // ---- speeds
@@ -373,7 +360,7 @@ public final class EdgesOfTermsTwoTest {
 
     private static void mayByFives() {
         // s times s times 10 by 1000 is 75 at most up to 87.
-        RailOffsets x = one(1, 1, 10, 0);
+        RailOffsets x = Scene.one(1, 1, 10, 0);
         Check.due("may", x.may(1), 85);
         x.rule(1, 80);
         Check.due("80 by 89", x.may(1), 85);
@@ -382,7 +369,7 @@ public final class EdgesOfTermsTwoTest {
     }
 
     private static void mayBeTwoHundred() {
-        RailOffsets x = one(1, 1, 4, 85);
+        RailOffsets x = Scene.one(1, 1, 4, 85);
         // 200 needs 160, 195 needs 152.
         Check.due("just 75 more", x.may(1), 200);
         x.set(0, 2, 84);
@@ -394,7 +381,7 @@ public final class EdgesOfTermsTwoTest {
 
     private static void mayBeNought() {
         // By 5 a versine of 40 needs 1, one of 39 none yet.
-        RailOffsets x = one(1, 1, 40, 0);
+        RailOffsets x = Scene.one(1, 1, 40, 0);
         x.rule(1, 0);
         Check.due("5 lacks", x.may(1), 0);
         x.set(0, 1, -40);
@@ -404,12 +391,12 @@ public final class EdgesOfTermsTwoTest {
     }
 
     private static void mayNot() {
-        RailOffsets x = one(0, 1, 0, 76);
+        RailOffsets x = Scene.one(0, 1, 0, 76);
         Check.due("too high by all", x.may(1), -1);
         x.rule(2, 76);
         Check.due("just not", x.may(1), 200);
         // Neither LACK nor EXCESS: the NEED is to be just 50, and is so by none of these.
-        RailOffsets y = one(1, 1, 3, 50);
+        RailOffsets y = Scene.one(1, 1, 3, 50);
         y.rule(1, 0);
         y.rule(2, 0);
         Check.due("46 by 125, 50 by 130", y.may(1), 130);
@@ -418,7 +405,7 @@ public final class EdgesOfTermsTwoTest {
     }
 
     private static void mayAsksNoMore() {
-        RailOffsets x = one(1, 1, 10, 70);
+        RailOffsets x = Scene.one(1, 1, 10, 70);
         Check.due("may", x.may(1), 120);
         x.rule(5, 3);
         x.rule(3, 0);
@@ -426,7 +413,7 @@ public final class EdgesOfTermsTwoTest {
     }
 
     private static void limitByLack() {
-        RailOffsets x = one(1, 1, 0, 0);
+        RailOffsets x = Scene.one(1, 1, 0, 0);
         x.piece(1, 1, 10, 0);
         x.piece(1, 1, 0, 0);
         Check.due("the one in the midst", x.limit(), 85);
@@ -446,7 +433,7 @@ public final class EdgesOfTermsTwoTest {
     }
 
     private static void limitByExcess() {
-        RailOffsets x = one(1, 1, 10, 0);
+        RailOffsets x = Scene.one(1, 1, 10, 0);
         x.piece(1, 1, 10, 150);
         // The second is not too high from 87 on, the first lacks from 88 on.
         Check.due("may of the first", x.may(1), 85);
@@ -459,7 +446,7 @@ public final class EdgesOfTermsTwoTest {
     }
 
     private static void limitAndSteep() {
-        RailOffsets x = one(0, 1, 0, 0);
+        RailOffsets x = Scene.one(0, 1, 0, 0);
         x.piece(0, 1, 0, 75);
         x.rule(3, 0);
         Check.due("it is steep", x.need(2, 3), 1);
@@ -478,7 +465,7 @@ public final class EdgesOfTermsTwoTest {
     }
 
     private static void leastIsNought() {
-        RailOffsets x = one(1, 3, 20, 160);
+        RailOffsets x = Scene.one(1, 3, 20, 160);
         // 60 needs 72 of 20, 75 of 21, 79 of 22.
         Check.due("72", x.least(0), 0);
         x.set(0, 1, -21);
@@ -488,7 +475,7 @@ public final class EdgesOfTermsTwoTest {
     }
 
     private static void leastIsTheMost() {
-        RailOffsets x = one(1, 3, 16, 0);
+        RailOffsets x = Scene.one(1, 3, 16, 0);
         x.rule(5, 100);
         x.rule(1, 0);
         Check.due("160", x.least(0), 160);
@@ -501,7 +488,7 @@ public final class EdgesOfTermsTwoTest {
     }
 
     private static void leastBySpeed() {
-        RailOffsets x = one(1, 1, 99, 0);
+        RailOffsets x = Scene.one(1, 1, 99, 0);
         Check.due("356 by 60", x.least(0), -1);
         x.rule(5, 0);
         Check.due("0 by 0", x.least(0), 0);
@@ -511,7 +498,7 @@ public final class EdgesOfTermsTwoTest {
 
     private static void leastOfItAlone() {
         for (int cant : new int[] {0, 33, 160}) {
-            RailOffsets x = one(1, 2, 30, cant);
+            RailOffsets x = Scene.one(1, 2, 30, cant);
             x.rule(2, 0);
             x.rule(3, 0);
             // It may be TOO HIGH or STEEP by it.
@@ -522,7 +509,7 @@ public final class EdgesOfTermsTwoTest {
     }
 
     private static void leastOfItsOwn() {
-        RailOffsets x = one(1, 1, 99, 0);
+        RailOffsets x = Scene.one(1, 1, 99, 0);
         x.piece(1, 1, 0, 0);
         // The ease behind it lacks by every height of it but great ones.
         x.piece(2, 2, 44, 0);
@@ -530,7 +517,7 @@ public final class EdgesOfTermsTwoTest {
     }
 
     private static void leastOfAnEase() {
-        RailOffsets x = one(1, 1, 40, 100);
+        RailOffsets x = Scene.one(1, 1, 40, 100);
         x.piece(2, 2, 40, 0);
         // 144 needs 69 at both: 100 + (c - 100) by 2, and c.
         Check.due("the last one asks the most", x.least(1), 69);
@@ -559,7 +546,7 @@ public final class EdgesOfTermsTwoTest {
     }
 
     private static void missBothWays() {
-        RailOffsets x = one(1, 2, 5, 0);
+        RailOffsets x = Scene.one(1, 2, 5, 0);
         x.rule(6, 15);
         x.rule(7, 10);
         Check.due("offset 15", x.miss(0), 0);
@@ -572,7 +559,7 @@ public final class EdgesOfTermsTwoTest {
 
     private static void meetsByNinetyNine() {
         for (int bend : new int[] {99, -99}) {
-            RailOffsets x = one(1, 2, 0, 0);
+            RailOffsets x = Scene.one(1, 2, 0, 0);
             x.rule(6, 3 * bend);
             x.rule(7, 2 * bend);
             Check.due("by " + bend, x.meets(0), 1000 + bend);
@@ -584,7 +571,7 @@ public final class EdgesOfTermsTwoTest {
 
     private static void meetsByTheLeast() {
         // A FLAT has the versine 2 by 4 and by 5, -2 by -4 and by -5.
-        RailOffsets x = one(5, 1, 0, 0);
+        RailOffsets x = Scene.one(5, 1, 0, 0);
         x.rule(6, 2);
         x.rule(7, 2);
         Check.due("2", x.meets(0), 1004);
@@ -601,12 +588,12 @@ public final class EdgesOfTermsTwoTest {
 
     private static void meetsByThatAbove() {
         // Turns never fall as a bend rises: where b and -b both meet, all between do, and 0 is the least.
-        RailOffsets x = one(0, 1, 77, 0);
+        RailOffsets x = Scene.one(0, 1, 77, 0);
         Check.due("a STRAIGHT by all", x.meets(0), 1000);
         x.set(0, 3, 5);
         Check.due("a FLAT by -1, 0 and 1", x.meets(0), 1000);
         for (int bend = 1; bend <= 99; bend++) {
-            RailOffsets y = one(1, 1, 0, 0);
+            RailOffsets y = Scene.one(1, 1, 0, 0);
             y.rule(6, bend);
             y.rule(7, bend);
             Check.due("above 0", y.meets(0), 1000 + bend);
@@ -617,7 +604,7 @@ public final class EdgesOfTermsTwoTest {
     }
 
     private static void meetsInBoth() {
-        RailOffsets x = one(1, 2, 0, 0);
+        RailOffsets x = Scene.one(1, 2, 0, 0);
         x.rule(6, 12);
         x.rule(7, 8);
         Check.due("both", x.meets(0), 1004);
@@ -631,7 +618,7 @@ public final class EdgesOfTermsTwoTest {
     }
 
     private static void meetsByEases() {
-        RailOffsets x = one(1, 1, 50, 0);
+        RailOffsets x = Scene.one(1, 1, 50, 0);
         x.piece(2, 2, 0, 0);
         x.piece(1, 1, 3, 0);
         // By -7: -7, then -7 + 3 and 0, then 3: offsets -7, -18, -29, -37.
@@ -644,7 +631,7 @@ public final class EdgesOfTermsTwoTest {
     }
 
     private static void meetsAlready() {
-        RailOffsets x = one(1, 3, 31, 0);
+        RailOffsets x = Scene.one(1, 3, 31, 0);
         x.rule(6, 186);
         x.rule(7, 93);
         Check.due("it has it", x.meets(0), 1031);
@@ -653,7 +640,7 @@ public final class EdgesOfTermsTwoTest {
     }
 
     private static void bothByThirty() {
-        RailOffsets x = one(1, 1, 0, 0);
+        RailOffsets x = Scene.one(1, 1, 0, 0);
         x.piece(1, 1, 0, 0);
         // Turn a + b, offset 2 a + b.
         int[][] pairs = {{-30, -30}, {30, 30}, {-30, 30}, {30, -30}, {0, 0}, {-30, 0}, {30, 29}};
@@ -671,13 +658,13 @@ public final class EdgesOfTermsTwoTest {
     }
 
     private static void bothByTheFirst() {
-        RailOffsets x = one(0, 1, 0, 0);
+        RailOffsets x = Scene.one(0, 1, 0, 0);
         x.piece(0, 1, 0, 0);
         Check.due("all pairs: the first", x.both(0, 1), 0);
         x.set(0, 3, 1);
         Check.due("i is to be 0, j whatever it is", x.both(0, 1), 61 * 30);
         Check.due("j is to be 0, i whatever it is", x.both(1, 0), 30);
-        RailOffsets y = one(5, 1, 0, 0);
+        RailOffsets y = Scene.one(5, 1, 0, 0);
         y.piece(5, 1, 0, 0);
         // Versines 3 and -2 by 6 or 7 and -4 or -5.
         y.rule(7, 1);
@@ -687,7 +674,7 @@ public final class EdgesOfTermsTwoTest {
     }
 
     private static void bothAlready() {
-        RailOffsets x = one(1, 1, 12, 0);
+        RailOffsets x = Scene.one(1, 1, 12, 0);
         x.piece(1, 1, -5, 0);
         x.rule(7, 7);
         x.rule(6, 19);
@@ -697,7 +684,7 @@ public final class EdgesOfTermsTwoTest {
     }
 
     private static void bothSideBySide() {
-        RailOffsets x = one(1, 1, 0, 0);
+        RailOffsets x = Scene.one(1, 1, 0, 0);
         x.piece(2, 2, 0, 0);
         x.piece(2, 2, 0, 0);
         // By 4 and 10: 4, 7, 10, 5, 0: offsets 4, 15, 36, 62, 88.
@@ -726,7 +713,7 @@ public final class EdgesOfTermsTwoTest {
     private static void alikeInAll() {
         int[][] others = {{2, 2, 3, 4}, {1, 3, 3, 4}, {1, 2, -3, 4}, {1, 2, 3, 5}};
         for (int[] o : others) {
-            RailOffsets x = one(1, 2, 3, 4);
+            RailOffsets x = Scene.one(1, 2, 3, 4);
             x.piece(o[0], o[1], o[2], o[3]);
             x.piece(1, 2, 3, 4);
             Check.due("the first and the last", x.alike(0), 5);

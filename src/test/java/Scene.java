@@ -10,6 +10,17 @@ final class Scene {
         return new RailOffsets();
     }
 
+    /** A line of one piece. */
+    static RailOffsets one(int kind, int length, int bend, int cant) {
+        RailOffsets x = new RailOffsets();
+        x.piece(kind, length, bend, cant);
+        return x;
+    }
+
+    static RailOffsets one(int kind, int length, int bend) {
+        return one(kind, length, bend, 0);
+    }
+
     /** Pieces, an image that differs from them, sheets of both sorts, one missing, one of no numbers, a text. */
     static RailOffsets ordinary() {
         RailOffsets x = new RailOffsets();
