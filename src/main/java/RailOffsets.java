@@ -42,7 +42,7 @@ public final class RailOffsets {
         rules = RULE_FIRST.clone();
         keptRules = RULE_FIRST.clone();
         line = new Line(pieces);
-        old = new OldLine();
+        old = new OldLine(line);
         sheets = new Sheet[SHEETS];
         for (int i = 0; i < sheets.length; i++) {
             sheets[i] = new Sheet();
@@ -452,7 +452,7 @@ public final class RailOffsets {
             return NO;
         }
         old.tell(row);
-        return old.slewAt(line, station);
+        return old.slewAt(station);
     }
 
     public long slews(int sheet, int what) {
@@ -463,11 +463,11 @@ public final class RailOffsets {
         old.tell(row);
         switch (what) {
             case 0:
-                return old.widest(line);
+                return old.widest();
             case 1:
-                return old.together(line);
+                return old.together();
             case 2:
-                return old.slewAt(line, line.stations);
+                return old.slewAt(line.stations);
             default:
                 return NO;
         }
@@ -484,10 +484,11 @@ public final class RailOffsets {
         old.tell(row);
         int was = pieces.read(piece, BEND);
         int found = -MOST_BEND;
-        long least = 0;
+        int least = 0;
         for (int bend = -MOST_BEND; bend <= MOST_BEND; bend++) {
             line.attempt(piece, BEND, bend);
-            long greatest = old.greatest(line);
+            old.sum();
+            int greatest = old.greatest();
             if (bend == -MOST_BEND || greatest < least) {
                 least = greatest;
                 found = bend;
@@ -501,8 +502,8 @@ public final class RailOffsets {
         if (!within(n, 0, MOST_ERROR)) {
             return NO;
         }
-        old.err(line, seed, n);
-        return old.greatest(line);
+        old.err(seed, n);
+        return old.greatest();
     }
 
     public int chance(int seed, int m, int n, int w, int part) {
@@ -511,8 +512,8 @@ public final class RailOffsets {
         }
         int good = 0;
         for (int i = 0; i < m; i++) {
-            old.err(line, seed + i, n);
-            if (old.greatest(line) <= w) {
+            old.err(seed + i, n);
+            if (old.greatest() <= w) {
                 good++;
             }
         }
@@ -1013,10 +1014,13 @@ public final class RailOffsets {
 
     /** A second line of versines, and how far it lies off the first: slews are sums of what the versines differ. */
     private static final class OldLine {
-        final int[] versines;
+        final Line line;
+        final int[] versines, slews;
 
-        OldLine() {
+        OldLine(Line line) {
+            this.line = line;
             versines = new int[MOST_STATIONS + 1];
+            slews = new int[MOST_STATIONS + 1];
         }
 
         void tell(Sheet row) {
@@ -1024,9 +1028,10 @@ public final class RailOffsets {
                 int v = row.read(station - 1);
                 mark(versines, station, Math.max(-MOST_VERSINE, Math.min(MOST_VERSINE, v)));
             }
+            sum();
         }
 
-        void err(Line line, int seed, int n) {
+        void err(int seed, int n) {
             int z = seed;
             int span = 2 * n + 1;
             for (int station = 1; station <= line.stations; station++) {
@@ -1034,54 +1039,44 @@ public final class RailOffsets {
                 int error = span > 0 ? (z >>> 9) % span - n : 0;
                 mark(versines, station, cell(line.versines, station) + error);
             }
+            sum();
         }
 
-        long slewAt(Line line, int station) {
-            long turn = 0;
-            long slew = 0;
-            for (int s = 1; s <= station; s++) {
-                turn += cell(versines, s) - cell(line.versines, s);
-                slew += turn;
+        /** To be called again when the line becomes another. */
+        void sum() {
+            int turn = 0;
+            for (int station = 1; station <= line.stations; station++) {
+                turn += cell(versines, station) - cell(line.versines, station);
+                mark(slews, station, cell(slews, station - 1) + turn);
             }
-            return slew;
         }
 
-        long greatest(Line line) {
-            long turn = 0;
-            long slew = 0;
-            long greatest = 0;
-            for (int s = 1; s <= line.stations; s++) {
-                turn += cell(versines, s) - cell(line.versines, s);
-                slew += turn;
-                greatest = Math.max(greatest, Math.abs(slew));
+        int slewAt(int station) {
+            return cell(slews, station);
+        }
+
+        int greatest() {
+            int most = 0;
+            for (int station = 1; station <= line.stations; station++) {
+                most = Math.max(most, Math.abs(slewAt(station)));
             }
-            return greatest;
+            return most;
         }
 
-        int widest(Line line) {
-            long turn = 0;
-            long slew = 0;
-            long greatest = -1;
-            int station = NONE;
-            for (int s = 1; s <= line.stations; s++) {
-                turn += cell(versines, s) - cell(line.versines, s);
-                slew += turn;
-                if (Math.abs(slew) > greatest) {
-                    greatest = Math.abs(slew);
-                    station = s;
+        int widest() {
+            int most = greatest();
+            for (int station = 1; station <= line.stations; station++) {
+                if (Math.abs(slewAt(station)) == most) {
+                    return station;
                 }
             }
-            return station;
+            return NONE;
         }
 
-        long together(Line line) {
-            long turn = 0;
-            long slew = 0;
+        long together() {
             long sum = 0;
-            for (int s = 1; s <= line.stations; s++) {
-                turn += cell(versines, s) - cell(line.versines, s);
-                slew += turn;
-                sum += Math.abs(slew);
+            for (int station = 1; station <= line.stations; station++) {
+                sum += Math.abs(slewAt(station));
             }
             return sum;
         }

@@ -416,6 +416,7 @@ public final class EdgesOfHostTest {
         Check.holds("32. -11", EdgesOfHostTest::loadMissing);
         Check.holds("32. -12: from", EdgesOfHostTest::loadFromOutside);
         Check.holds("32. -12: what stood ahead came", EdgesOfHostTest::loadWhatStoodAhead);
+        Check.holds("32. n 0: a SHEET is asked for, no place is", EdgesOfHostTest::loadOfNone);
         Check.holds("32. BAD ahead of -13 and -11, these ahead of -12", EdgesOfHostTest::loadInOrder);
         Check.holds("32. numbers that wrap around", EdgesOfHostTest::loadWrapsAround);
     }
@@ -536,6 +537,20 @@ public final class EdgesOfHostTest {
         Check.ints(y, 0, 0, 1, 0, 0, 9, 9, 9, 9);
         Check.due("one of two, then outside", y.load(0, 1, 0, 3), -12);
         Check.due("one came", y.count(0), 1);
+    }
+
+    private static void loadOfNone() {
+        RailOffsets x = new RailOffsets();
+        Check.due("missing", x.load(0, 0, 0, 0), -11);
+        Check.due("missing", x.load(0, 1, 0, 0), -11);
+        Check.shorts(x, 0);
+        Check.shorts(x, 1, 0, 1, 0, 0);
+        Check.due("of another sort", x.load(1, 1, 0, 0), -13);
+        for (int from : new int[] {MIN, -1, 0, 3, 4, 5, 40, 41, MAX}) {
+            Check.due("none of a row of none, from " + from, x.load(0, 0, from, 0), 0);
+            Check.due("none of four, from " + from, x.load(1, 0, from, 0), 0);
+        }
+        Check.due("count", x.count(0), 0);
     }
 
     private static void loadInOrder() {

@@ -459,6 +459,7 @@ public final class EdgesOfTermsTwoTest {
         Check.holds("LEAST CANT: 0 is the least", EdgesOfTermsTwoTest::leastIsNought);
         Check.holds("LEAST CANT (0 .. 160); NONE", EdgesOfTermsTwoTest::leastIsTheMost);
         Check.holds("LEAST CANT: none of its STATIONS LACKS, by SPEED", EdgesOfTermsTwoTest::leastBySpeed);
+        Check.holds("LEAST CANT: LACKS alone, not TOO HIGH nor STEEP", EdgesOfTermsTwoTest::leastAsksNothingElse);
         Check.holds("LEAST CANT of it alone: what it has does not matter", EdgesOfTermsTwoTest::leastOfItAlone);
         Check.holds("In doubt: LEAST CANT looks at the PIECE's own STATIONS alone", EdgesOfTermsTwoTest::leastOfItsOwn);
         Check.holds("LEAST CANT of an EASE: from the HEIGHT ahead", EdgesOfTermsTwoTest::leastOfAnEase);
@@ -494,6 +495,19 @@ public final class EdgesOfTermsTwoTest {
         Check.due("0 by 0", x.least(0), 0);
         x.rule(5, 48);
         Check.due("228 by 48", x.least(0), 153);
+    }
+
+    private static void leastAsksNothingElse() {
+        RailOffsets x = Scene.one(1, 1, 0, 160);
+        x.piece(2, 2, 0, 30);
+        x.rule(2, 0);
+        x.rule(3, 0);
+        // Halfway from 160 down it is TOO HIGH and STEEP by every CANT.
+        Check.due("an EASE that is TOO HIGH by all", x.least(1), 0);
+        x.rule(5, 120);
+        x.set(1, 1, 8);
+        // 57 at the first, where it is 80 and more; 115 less 75 at the last.
+        Check.due("the last one lacks by less than 40", x.least(1), 40);
     }
 
     private static void leastOfItAlone() {

@@ -23,6 +23,9 @@ public final class RulesTest {
         "int copy(int,int,int,int,int)"};
     private static final String FORBIDDEN = "\\b(throw|throws|try|catch|finally|synchronized|assert|import|package|"
         + "volatile|transient|native|record|lambda|Random|Thread|System\\.(?!arraycopy)\\w+|\\w+Exact)\\b|->|::";
+    private static final String LIBRARY = "Math|System|String|StringBuilder|Integer|Long|Arrays|List";
+    private static final Set<String> USED = Set.of("Math.abs", "Math.max", "Math.min", "System.arraycopy",
+        "Long.MIN_VALUE");
 
     public static void main(String[] args) throws IOException {
         face();
@@ -89,17 +92,33 @@ public final class RulesTest {
         while (bad.find()) {
             Check.due("'" + bad.group() + "' stands in the class", 1, 0);
         }
+        Matcher library = Pattern.compile("\\b(" + LIBRARY + ")\\.(\\w+)").matcher(code);
+        while (library.find()) {
+            Check.due(library.group() + " is used", USED.contains(library.group()) ? 1 : 0, 1);
+        }
         for (int i = 0; i < text.length(); i++) {
             Check.due("a sign beyond 127 at " + i, text.charAt(i) < 128 ? 1 : 0, 1);
         }
+        methods(code);
+    }
+
+    private static void methods(String code) {
         // A method begins at one indentation and ends with a brace at the same one.
         Matcher method = Pattern.compile("(?m)^( {4}| {8})(?! )[^\n]*\\) \\{\n(?s:.*?)^\\1\\}$").matcher(code);
         int methods = 0;
         while (method.find()) {
             methods++;
-            long lines = method.group().lines().count();
-            Check.due("a method of " + lines + " lines: " + method.group().lines().findFirst().orElse(""),
-                lines <= 60 ? 1 : 0, 1);
+            String body = method.group();
+            String head = body.lines().findFirst().orElse("").strip();
+            boolean constructor = head.matches("(public )?[A-Z]\\w*\\(.*");
+            Check.due("a method is too long: " + head, body.lines().count() <= 60 ? 1 : 0, 1);
+            // Constructors alone make objects, so what a run makes does not grow with its calls.
+            boolean makes = Pattern.compile("\\bnew\\b|\\bclone\\b").matcher(body).find();
+            Check.due("an object is made by " + head, makes && !constructor ? 1 : 0, 0);
+            // All others go by cell and mark, which look at the index.
+            boolean indexes = Pattern.compile("\\w\\[\\w").matcher(body).find();
+            boolean looks = constructor || head.matches(".* (cell|mark|sheetOf|become)\\(.*");
+            Check.due("an index is used by " + head, indexes && !looks ? 1 : 0, 0);
         }
         Check.due("methods were seen", methods > 60 ? 1 : 0, 1);
     }
